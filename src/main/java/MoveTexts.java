@@ -1592,7 +1592,7 @@ public final class MoveTexts {
         }
 
         /** A line from the position on the board of its depth. */
-        void putLine(Game game, int first, int depth, Row out) {
+        private void putLine(Game game, int first, int depth, Row out) {
             if (depth > MOST_DEEP) {
                 return;
             }

@@ -778,7 +778,7 @@ public final class MoveTexts {
             for (int square = 0; square < SQUARES; square++) {
                 whiteKings += board.men[square] == KING ? 1 : 0;
                 blackKings += board.men[square] == KING + 8 ? 1 : 0;
-                if (board.becomesAnother(square, square)) {
+                if (board.kindAt(square) == PAWN && (square < 8 || square >= 56)) {
                     return false;
                 }
             }
@@ -818,7 +818,7 @@ public final class MoveTexts {
     /** Reads the signs of one move. */
     private static final class SignReader {
         private static final int ANY = -1;
-        /** No signs are longer: bxa8=Q+ or Qa1xb2+; and none without x, + and # than O-O-O. */
+        /** No signs are longer, as bxa8=Q+ or Qa1xb2+; so of a longer row one character more is enough. */
         private static final int LONGEST = 7;
 
         private final Rules rules = new Rules();
@@ -1036,7 +1036,6 @@ public final class MoveTexts {
         }
 
         void putMark(int mark) {
-            marks &= ~(255 << 8 * markCount);
             marks |= mark << 8 * markCount;
             markCount++;
         }

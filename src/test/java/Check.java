@@ -127,6 +127,15 @@ final class Check {
         return all.toString();
     }
 
+    /** All legal moves HERE, as one text. */
+    static String moves(MoveTexts x) {
+        StringBuilder all = new StringBuilder();
+        for (int k = 0; x.move(k) != MoveTexts.NONE; k++) {
+            all.append(x.move(k)).append(' ');
+        }
+        return all.toString();
+    }
+
     static int square(String name) {
         return name.charAt(0) - 'a' + 8 * (name.charAt(1) - '1');
     }

@@ -117,6 +117,17 @@ public final class PositionTest {
         Check.due("black long", has(open.replace(" w ", " b "), "e8c8"), true);
         Check.due("black without the right", has("r3k2r/8/8/8/8/8/8/R3K2R b KQq - 0 1", "e8g8"), false);
         Check.due("a man between", has("4k3/8/8/8/8/8/8/RN2K2R w KQ - 0 1", "e1c1"), false);
+        Check.due("a man between", has("4k3/8/8/8/8/8/8/R1B1K2R w KQ - 0 1", "e1c1"), false);
+        Check.due("a man between", has("4k3/8/8/8/8/8/8/R2QK2R w KQ - 0 1", "e1c1"), false);
+        Check.due("a man between", has("4k3/8/8/8/8/8/8/R3K1NR w KQ - 0 1", "e1g1"), false);
+        Check.due("the other side is not between", has("4k3/8/8/8/8/8/8/RNBQK2R w KQ - 0 1", "e1g1"), true);
+        Check.due("a man of the other side", has("4k3/8/8/8/8/8/8/R1b1K2R w KQ - 0 1", "e1c1"), false);
+        Check.due("a man of the other side", has("4k3/8/8/8/8/8/8/R3K1nR w KQ - 0 1", "e1g1"), false);
+        Check.due("black in check", has("r3k2r/8/8/8/8/8/4R3/4K3 b kq - 0 1", "e8g8"), false);
+        Check.due("black through check", has("r3k2r/8/8/8/8/8/5R2/4K3 b kq - 0 1", "e8g8"), false);
+        Check.due("black the other way", has("r3k2r/8/8/8/8/8/5R2/4K3 b kq - 0 1", "e8c8"), true);
+        Check.due("from the usual first position", Check.game("e4 e5 Nf3 Nf6 Be2 Be7 O-O O-O *").nodes(), 8);
+        Check.due("from there, too", Check.game("d4 d5 Nc3 Nc6 Be3 Be6 Qd2 Qd7 O-O-O O-O-O *").nodes(), 10);
         Check.due("a man where it passes", has("4k3/8/8/8/8/8/8/R3KB1R w KQ - 0 1", "e1g1"), false);
         Check.due("in check", has("4r1k1/8/8/8/8/8/8/R3K2R w KQ - 0 1", "e1g1"), false);
         Check.due("through check", has("5rk1/8/8/8/8/8/8/R3K2R w KQ - 0 1", "e1g1"), false);
@@ -150,7 +161,19 @@ public final class PositionTest {
         Check.due("king went", mayCastleBehind(open, "e1g1", "e1e2", "a7a6", "e2e1", "a6a5"), false);
         Check.due("rook went", mayCastleBehind(open, "e1g1", "h1g1", "a7a6", "g1h1", "a6a5"), false);
         Check.due("not the other rook", mayCastleBehind(open, "e1c1", "h1g1", "a7a6", "g1h1", "a6a5"), true);
-        Check.due("long rook went", mayCastleBehind(open, "e1c1", "a1b1", "a7a6", "b1a1", "a6a5"), false);
+        Check.due("long rook went", mayCastleBehind(open, "e1c1", "a1c1", "a7a6", "c1a1", "a6a5"), false);
+        Check.due("not the other rook", mayCastleBehind(open, "e1g1", "a1c1", "a7a6", "c1a1", "a6a5"), true);
+        Check.due("king went", mayCastleBehind(open, "e1c1", "e1e2", "a7a6", "e2e1", "a6a5"), false);
+        String[][] back = {{"a8c8", "c8a8"}, {"h8f8", "f8h8"}, {"e8e7", "e7e8"}};
+        for (String[] way : back) {
+            Check.due("black lost its own", mayCastleBehind(open, "e1g1", "a2a3", way[0], "a3a4", way[1]), true);
+            Check.due("black lost its own", mayCastleBehind(open, "e1c1", "a2a3", way[0], "a3a4", way[1]), true);
+        }
+        String[][] forth = {{"a1c1", "c1a1"}, {"h1f1", "f1h1"}, {"e1e2", "e2e1"}};
+        for (String[] way : forth) {
+            Check.due("white lost its own", mayCastleBehind(open, "e8g8", way[0], "a7a6", way[1], "a6a5", "h2h3"), true);
+            Check.due("white lost its own", mayCastleBehind(open, "e8c8", way[0], "a7a6", way[1], "a6a5", "h2h3"), true);
+        }
         Check.due("black king went", mayCastleBehind(open, "e8c8", "a2a3", "e8d8", "a3a4", "d8e8", "a4a5"), false);
         Check.due("black rook went", mayCastleBehind(open, "e8c8", "a2a3", "a8b8", "a3a4", "b8a8", "a4a5"), false);
         Check.due("black short is there", mayCastleBehind(open, "e8g8", "a2a3", "a8b8", "a3a4", "b8a8", "a4a5"), true);
@@ -181,6 +204,15 @@ public final class PositionTest {
         y.add(Check.move("e2e4"));
         y.add(Check.move("d4e3"));
         Check.due("black takes so, too", y.man(Check.square("e4")), 0);
+        Check.due("from the a file", has("4k3/8/8/Pp6/8/8/8/4K3 w - b6 0 1", "a5b6"), true);
+        Check.due("from the h file", has("4k3/8/8/6pP/8/8/8/4K3 w - g6 0 1", "h5g6"), true);
+        Check.due("towards the a file", has("4k3/8/8/8/Pp6/8/8/4K3 b - a3 0 1", "b4a3"), true);
+        Check.due("towards the h file", has("4k3/8/8/8/6pP/8/8/4K3 b - h3 0 1", "g4h3"), true);
+        MoveTexts again = Check.position("4k3/8/8/3pP3/8/8/8/4K3 w - d6 0 37");
+        Check.due("read", Check.read(again, "[FEN \"4k3/8/8/3pP3/8/8/8/4K3 w - - 0 12\"] 12. Kd1 *"), 0);
+        Check.due("no passed square", moves(again).contains(Check.move("e5d6")), false);
+        Check.due("read", Check.read(again, "[FEN \"4k3/8/8/3pP3/8/8/8/4K3 w - d6 0 37\"] 37. exd6 *"), 0);
+        Check.due("read", Check.read(again, "1. e4 *"), 0);
         Check.due("not behind one step", mayCastleBehind("4k3/8/3p4/4P3/8/8/8/4K3 b - - 0 1", "e5d6", "e8e7"), true);
         Check.due("its king would be in check", has("8/8/8/K2pP2r/8/8/8/7k w - d6 0 1", "e5d6"), false);
         Check.due("its king would not", has("8/8/K7/3pP2r/8/8/8/7k w - d6 0 1", "e5d6"), true);
@@ -251,7 +283,8 @@ public final class PositionTest {
             "4k3/8/3n4/3pP3/8/8/8/4K3 w - d6 0 1", "4k3/3n4/8/3pP3/8/8/8/4K3 w - d6 0 1", "4k3/8/8/3nP3/8/8/8/4K3 w - d6 0 1",
             "4k3/8/8/3PP3/8/8/8/4K3 w - d6 0 1", "4k3/8/8/3p4/8/8/8/4K3 w - d6 0 1", "4k3/8/8/3pp3/8/8/8/4K3 w - d6 0 1",
             "4k3/8/8/8/3pP3/8/8/4K3 w - e3 0 1", "4k3/8/8/3pP3/8/8/8/4K3 b - d6 0 1", "4k3/8/8/3pN3/8/8/8/4K3 w - d6 0 1",
-            "4k3/8/8/8/8/8/8/4K3 w - a1 0 1", "4k3/8/8/8/8/8/8/4K3 b - h8 0 1", "4k3/8/8/p6P/8/8/8/4K3 w - a6 0 1",
+            "4k3/8/8/8/8/8/8/4K3 w - a1 0 1", "4k3/8/8/8/8/8/8/4K3 b - h8 0 1", "4k3/8/8/p7/7P/8/8/4K3 w - a6 0 1", "4k3/8/P7/7p/8/8/8/4K3 w - h6 0 1",
+            "4k3/8/8/p6P/8/8/8/4K3 w - a6 0 1",
             "4k3/8/8/8/3pP3/8/4N3/4K3 b - e3 0 1", "4k3/8/8/8/3pP3/4n3/8/4K3 b - e3 0 1"};
         for (String fen : wrong) {
             refused(fen);

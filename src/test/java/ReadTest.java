@@ -289,6 +289,8 @@ public final class ReadTest {
         Check.game("\n [ a\n\"b\" ] [c\"d\"]{e};f\n1.e4!{g}(1.d4)e5(c5)(c6){h}2Nf3\n*\n");
         Check.game("1.e4$1{a}1...e5*");
         Check.game("[a\"b\"]e4*");
+        Check.game("e4 ( \nd4 \n) *");
+        Check.game("[azAZ09 \"\"]*");
         MoveTexts x = Check.game(fen("r3k2r/1P4P1/8/3pP3/8/8/8/R3K2R w KQkq d6 0 37")
             + "37. exd6 (37. O-O-O Kf7 38. gxh8=N+) (O-O) (bxa8=R+) 37... Rxa1+ *");
         Check.due("nodes", x.nodes(), 7);
@@ -309,7 +311,27 @@ public final class ReadTest {
         Check.due("nodes", x.nodes(), 2);
     }
 
+    /** Games that are read one behind the other are as if each were read by a new object. */
     private static void newGameInPlace() {
+        String[] texts = {"[a \"b\"]{c} e4! $7 $8 $9 {d} (d4 {e} d5 (c5)) e5 (c5) (e6) 1-0", "*", "c4 $0 $2 c5 Nf3 *",
+            fen("4k3/8/8/3pP3/8/8/8/4K3 w - d6 0 37") + "{a} exd6 0-1", fen("4k3/8/8/3pP3/8/8/8/4K3 w - - 0 7") + "*",
+            "[q \"\"][r \"\"] f4 (g4 $1) *"};
+        MoveTexts one = new MoveTexts();
+        for (int first = 0; first < texts.length; first++) {
+            for (int then = 0; then < texts.length; then++) {
+                for (String text : new String[] {texts[first], "e4 x", texts[then]}) {
+                    int answer = Check.read(one, text);
+                    Check.due("read", answer, text.equals("e4 x") ? 40003 : 0);
+                }
+                for (String text : new String[] {texts[first], texts[then]}) {
+                    Check.due("read", Check.read(one, text), 0);
+                    MoveTexts fresh = Check.game(text);
+                    Check.due("state", Check.state(one), Check.state(fresh));
+                    Check.due("moves", Check.moves(one), Check.moves(fresh));
+                    Check.due("written", Check.written(one), Check.written(fresh));
+                }
+            }
+        }
         MoveTexts x = Check.game(fen("4k3/8/8/8/8/8/8/4K3 b - - 0 9") + "{c} Kd8 $1 {d} 1-0");
         x.go(1);
         Check.due("read", Check.read(x, "*"), 0);

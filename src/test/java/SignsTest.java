@@ -83,6 +83,8 @@ public final class SignsTest {
         signs("3b2k1/5ppp/8/8/8/8/7P/4R1K1 w - - 0 1", "e1e8", "Re8#");
         signs("4b1k1/5ppp/8/8/8/8/7P/2R3K1 w - - 0 1", "c1c8", "Rc8");
         signs("8/8/8/8/8/1R6/k1K5/8 w - - 0 1", "b3b8", "Rb8");
+        signs("8/8/8/8/8/2K5/7R/k7 w - - 0 1", "h2h1", "Rh1+");
+        signs("2R5/8/8/8/4N3/1K6/8/1k6 w - - 0 1", "e4d2", "Nd2+");
         signs("k1K5/8/1B6/8/8/8/8/7R w - - 0 1", "h1a1", "Ra1#");
         signs("8/8/8/8/3pk3/8/4P3/R2K1R2 w - - 0 1", "f1f4", "Rf4+");
     }
@@ -196,6 +198,9 @@ public final class SignsTest {
         found(pawns, "e4d5", 0, "exd5");
         almostFound(pawns, "cd5", "ed5");
         notFound(pawns, "d5", "xd5", "dd5", "dxd5");
+        MoveTexts rook = Check.position("7k/8/8/8/8/8/8/K3R3 w - - 0 1");
+        notFound(rook, "O-O", "O-O-O");
+        found(rook, "e1g1", 0, "Rg1");
         MoveTexts here = Check.game("e4 e5 *");
         here.go(1);
         found(here, "e7e5", 0, "e5");

@@ -13,6 +13,7 @@ public final class TreeTest {
         saying();
         leading();
         leadingTooDeep();
+        deepBehindLead();
         Check.close("TreeTest");
     }
 
@@ -226,6 +227,27 @@ public final class TreeTest {
         Check.due("here", x.here(), 2);
         x.go(4);
         Check.due("an only one", x.lead(), false);
+    }
+
+    /** Node 1 counts, too, once it is an other line; and moves that go on do not. */
+    private static void deepBehindLead() {
+        MoveTexts x = Check.game("e4 (d4) e5 (a6 a3 (a4 b6 (b5 c3 (c4 d6 (d5)))))*");
+        int deepest = x.nodes();
+        x.go(2);
+        Check.due("e4 is an other line now", x.lead(), true);
+        x.go(deepest);
+        Check.due("it goes on", x.add(Check.move("h2h3")), deepest + 1);
+        x.go(deepest);
+        Check.throwsDue("seven deep", UnsupportedOperationException.class, () -> x.add(Check.move("g2g3")));
+        x.go(1);
+        Check.due("e4 leads again", x.lead(), true);
+        x.go(deepest);
+        Check.due("six deep", x.add(Check.move("g2g3")), deepest + 2);
+        x.go(2);
+        Check.throwsDue("seven deep", IllegalStateException.class, () -> x.lead() ? 1 : 0);
+        MoveTexts longGame = Check.game("e4 e5 Nf3 Nc6 Bb5 a6 Ba4 Nf6 O-O Be7 Re1 (d3) *");
+        longGame.go(longGame.nodes());
+        Check.due("a long line is not deep", longGame.lead(), true);
     }
 
     private static void leadingTooDeep() {

@@ -11,6 +11,15 @@ final class Check {
         long answer();
     }
 
+    /** Makes the same object each time. */
+    interface Maker {
+        MoveTexts made();
+    }
+
+    interface Act {
+        long answer(MoveTexts x);
+    }
+
     static void due(String what, long got, long want) {
         if (got != want) {
             wrong++;
@@ -38,6 +47,20 @@ final class Check {
             got = e.getClass().getSimpleName();
         }
         due(what, got, exception.getSimpleName());
+    }
+
+    /** The call throws just that exception, and the object is as if it had not been called. */
+    static void refused(String what, Class<?> exception, Maker maker, Act act) {
+        MoveTexts x = maker.made();
+        throwsDue(what, exception, () -> act.answer(x));
+        due(what + " changes nothing", all(x), all(maker.made()));
+    }
+
+    /** The call answers so, and the object is as if it had not been called. */
+    static void unchanged(String what, long want, Maker maker, Act act) {
+        MoveTexts x = maker.made();
+        due(what, act.answer(x), want);
+        due(what + " changes nothing", all(x), all(maker.made()));
     }
 
     static void type(MoveTexts x, String text) {
@@ -166,6 +189,35 @@ final class Check {
             all.append(x.man(square)).append(' ');
         }
         return all.toString();
+    }
+
+    /** How long the text is, told by cut alone. */
+    static int textLength(MoveTexts x) {
+        int length = 2000;
+        while (length > 0 && !x.cut(length)) {
+            length--;
+        }
+        return length;
+    }
+
+    /** The whole state, and what OUT and the text hold. (The text is used up for it.) */
+    static String all(MoveTexts x) {
+        StringBuilder all = new StringBuilder(state(x));
+        all.append(moves(x)).append('\n').append(out(x)).append('\n');
+        all.append(textLength(x)).append(' ').append(x.find()).append(' ').append(said(x)).append(' ');
+        return all.append(x.read()).append('\n').append(written(x)).toString();
+    }
+
+    /** The text as say takes it. */
+    private static String said(MoveTexts x) {
+        try {
+            x.say();
+        } catch (IllegalArgumentException e) {
+            return "not said";
+        }
+        String text = remark(x, x.here());
+        type(x, text);
+        return text;
     }
 
     /** Ends a test's main method. */

@@ -282,6 +282,9 @@ public final class CallEdgesTest {
         }
         MoveTexts full = shuffled(300);
         Check.due("300", go(full, 300), 300);
+        Check.due("the position behind all 300", Check.state(full) + Check.moves(full), Check.state(shuffled(300)) + Check.moves(shuffled(300)));
+        Check.due("the first one", go(full, 1), 1);
+        Check.due("its knight", full.man(Check.square("f3")), 2);
         Check.throwsDue("301", INDEX, () -> go(full, 301));
         Check.throwsDue("there is only node 0", INDEX, () -> go(new MoveTexts(), 1));
         Check.unchanged("where it is already", 3, () -> rich(), x -> go(x, 3));
@@ -468,9 +471,16 @@ public final class CallEdgesTest {
             }
             Check.due("no more", node, MoveTexts.NONE);
         }
+        MoveTexts full = shuffled(299);
+        full.go(0);
+        full.add(Check.move("e2e4"));
+        Check.due("in a full tree", full.lead(), true);
+        Check.due("it goes on", full.node(0, 2), 300);
+        full.go(1);
+        Check.due("and the other again", full.lead(), true);
     }
 
-    /** The first line of deep(6) takes a bracket more for each node of the second one. */
+    /** Node 2 of deep(6) begins what is six deep, node 1 is beside it. */
     private static void promise20Deep() {
         MoveTexts x = deep(6);
         x.go(2);

@@ -218,8 +218,25 @@ public final class PositionEdgesTest {
         }
         y.add(Check.move("a6a7"));
         Check.due("it is a pawn still", y.man(Check.square("a7")), 1);
+        for (String file : new String[] {"a", "d", "h"}) {
+            lastRank("1k6/8/x/8/8/8/8/1K6 w - - 0 1", 'P', file + "6" + file + "7", false);
+            lastRank("8/x/1k6/8/8/8/8/1K6 w - - 0 1", 'P', file + "7" + file + "8", true);
+            lastRank("1k6/8/8/8/8/x/8/1K6 b - - 0 1", 'p', file + "3" + file + "2", false);
+            lastRank("1k6/8/8/8/8/1K6/x/8 b - - 0 1", 'p', file + "2" + file + "1", true);
+        }
         MoveTexts rook = Check.position("7k/R7/8/8/8/8/8/7K w - - 0 1");
         Check.throwsDue("only pawns", IllegalArgumentException.class, () -> rook.add(Check.move("a7a8", 5)));
+    }
+
+    /** The pawn's rank is written as x. It becomes another man on the last rank, and only there. */
+    private static void lastRank(String fen, char pawn, String squares, boolean due) {
+        int file = squares.charAt(0) - 'a';
+        MoveTexts x = Check.position(fen.replace("x", row(file, pawn, file, pawn)));
+        String moves = " " + Check.moves(x);
+        for (int m = 0; m <= 7; m++) {
+            boolean there = moves.contains(" " + Check.move(squares, m) + " ");
+            Check.due(squares + " becomes " + m, there, due ? m >= 2 && m <= 5 : m == 0);
+        }
     }
 
     private static void attackedWhateverIsThere() {

@@ -141,6 +141,12 @@ public final class SignsEdgesTest {
         told("4r2k/8/8/8/4R3/8/8/R2K4 w - - 0 1", "a1a4", "Raa4");
         told("4r2k/8/8/8/4R3/8/8/R3K3 w - - 0 1", "e4e3", "Re3");
         told("k7/8/8/8/1b6/8/3N4/4KN2 w - - 0 1", "f1e3", "Ne3");
+        told("4r2k/8/8/R7/4R3/8/8/4K3 w - - 0 1", "a5e5", "Rae5");
+        told("4r2k/8/8/R7/4R3/8/8/4K3 w - - 0 1", "e4e5", "Ree5");
+        told("4r2k/8/8/R7/4R3/8/8/4K3 w - - 0 1", "a5a4", "Ra4");
+        told("R6R/8/1k6/8/8/8/8/K7 w - - 0 1", "a8d8", "Rad8");
+        told("R6R/8/1k6/8/8/8/8/K7 w - - 0 1", "h8d8", "Rhd8");
+        told("8/8/1k6/8/8/8/8/R2K3R w - - 0 1", "h1h8", "Rh8");
         told("k7/8/8/8/1b6/2N5/8/4K1N1 w - - 0 1", "g1e2", "Ne2");
         told("k7/8/8/8/8/2N5/8/4K1N1 w - - 0 1", "g1e2", "Nge2");
     }
@@ -160,6 +166,10 @@ public final class SignsEdgesTest {
         told("8/8/8/8/8/5k2/8/4K2R w K - 0 1", "e1g1", 0, "O-O+");
         told("k7/2K5/8/8/8/8/8/1R6 w - - 0 1", "b1a1", "Ra1#");
         told("k7/2K5/8/8/8/8/8/1R6 w - - 0 1", "b1b8", "Rb8+");
+        told("5rk1/5p2/8/8/8/8/2B5/K4R2 w - - 0 1", "f1g1", "Rg1+");
+        told("5rk1/5p2/8/8/8/8/1BB5/K4R2 w - - 0 1", "f1g1", "Rg1#");
+        told("k4r2/2b5/8/8/8/8/5P2/5RK1 b - - 0 1", "f8g8", "Rg8+");
+        told("1k3r2/2b5/1b6/8/8/8/6PP/5R1K b - - 0 1", "f8f1", "Rxf1#");
     }
 
     private static final String FIRST = "rnbqkbnr/pppppppp/8/8/8/8/PPPPPPPP/RNBQKBNR w KQkq - 0 1";
